@@ -29,7 +29,6 @@ public final class TicketWindows {
     private static final int[] LEAST_SETTING = {0, 1, 1};
     private static final int[] MOST_SETTING = {2, 9, 20};
 
-    private static final int RULE_PAY = 0;
     private static final int RULE_ASK_HOME = 1;
     private static final int RULE_CALL_OUT = 2;
 
@@ -1132,31 +1131,30 @@ public final class TicketWindows {
             if (place >= length || place >= MOST_SIGNS) {
                 return false;
             }
-            sign[order] = text[place];
-            switch (text[place]) {
-                case 's':
-                    place++;
-                    number[order] = readNumber(0, TICKETS - 1);
-                    return number[order] != NONE;
-                case 'd':
-                    place++;
-                    number[order] = readNumber(0, DRAWS - 1);
-                    return number[order] != NONE;
-                case 't':
-                    place++;
-                    number[order] = readNumber(1, MOST_TICKS);
-                    return number[order] != NONE;
-                case 'c':
-                    place++;
-                    window[order] = readNumber(0, WINDOWS - 1);
-                    if (window[order] == NONE || !readSign(':')) {
-                        return false;
-                    }
-                    number[order] = readNumber(0, TICKETS - 1);
-                    return number[order] != NONE;
-                default:
-                    return false;
+            char first = text[place];
+            if (first != 's' && first != 'c' && first != 'd' && first != 't') {
+                return false;
             }
+            place++;
+            sign[order] = first;
+            if (first == 'c' && !readWindow(order)) {
+                return false;
+            }
+            number[order] = readNumber(first == 't' ? 1 : 0, mostBehind(first));
+            return number[order] != NONE;
+        }
+
+        private static int mostBehind(char first) {
+            switch (first) {
+                case 't': return MOST_TICKS;
+                case 'd': return DRAWS - 1;
+                default: return TICKETS - 1;
+            }
+        }
+
+        private boolean readWindow(int order) {
+            window[order] = readNumber(0, WINDOWS - 1);
+            return window[order] != NONE && readSign(':');
         }
 
         private boolean readSign(char due) {
