@@ -186,6 +186,9 @@ public final class RandomRunsTest {
     }
 
     private void text() {
+        if (calls > CALLS - 3) {
+            return;
+        }
         same("clearText()", office.clearText(), reference.clearText());
         StringBuilder text = new StringBuilder();
         int orders = 1 + below(10);
