@@ -23,6 +23,7 @@ public final class DrawEdgesTest {
         sharesRoundedDown();
         emptyDraw();
         oneTicketOfEachClass();
+        firstTenOfEachDraw();
         lastTicketOfAll();
         firstTicketOfAll();
         everyWrongTicket();
@@ -249,6 +250,27 @@ public final class DrawEdgesTest {
         due("class 3 alone in the last draw", x.ticketOf(509, 2), 6);
     }
 
+    /** The third draw wins 5: of each draw the first ten tickets have the same tens. */
+    private static void firstTenOfEachDraw() {
+        for (int draw = 0; draw < 6; draw++) {
+            TicketWindows x = new TicketWindows();
+            x.draw((draw + 1) % 6);
+            x.draw((draw + 2) % 6);
+            for (int n = 0; n <= 10; n++) {
+                due("sell", x.sell(100 * draw + n), 10 * n + 10);
+            }
+            due("sell", x.sell(100 * draw + 95), 120);
+            due("draw(" + draw + ")", x.draw(draw), 5);
+            for (int n = 0; n <= 9; n++) {
+                due("class of " + n, x.ticketOf(100 * draw + n, 1), n == 5 ? 1 : 2);
+                due("prize of " + n, x.ticketOf(100 * draw + n, 2), n == 5 ? 48 : 4);
+            }
+            due("class of 10", x.ticketOf(100 * draw + 10, 1), 0);
+            due("prize of 95", x.ticketOf(100 * draw + 95, 2), 24);
+            due("all prizes", x.drawOf(draw, 7), 48 + 9 * 4 + 24);
+        }
+    }
+
     /** The number 599 goes through all that is told and done of tickets. */
     private static void lastTicketOfAll() {
         TicketWindows x = new TicketWindows();
@@ -264,6 +286,7 @@ public final class DrawEdgesTest {
         due("coins by tickets", x.paid(true), 4);
         x.pass(3);
         due("called back", x.ticketOf(599, 4), 1);
+        due("no dispute is open", x.ticketOf(599, 8), 0);
         due("coins by tickets", x.paid(true), 2);
         due("coins by windows", x.paid(false), 2);
         x.undo();

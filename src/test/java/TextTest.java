@@ -6,6 +6,7 @@ public final class TextTest {
         type();
         faults();
         everySignAtEveryPlace();
+        signsThatLookAlike();
         fullTexts();
         doAll();
         doAllOrNone();
@@ -86,6 +87,24 @@ public final class TextTest {
         }
     }
 
+    /** A sign whose number is a signs' number and 128, 256 or more is another one. */
+    private static void signsThatLookAlike() {
+        String text = "s10;c1:0;d5;t9";
+        for (int more : new int[] {128, 256, 512, 0x7f00, 0x8000, 0xff00}) {
+            for (int i = 0; i < text.length(); i++) {
+                char sign = (char) (text.charAt(i) + more);
+                fault(text.substring(0, i) + sign + text.substring(i + 1), i);
+            }
+        }
+        for (char sign : new char[] {0, 1, 127, 128, 255, 256, 0x7fff, 0x8000, 0xffff}) {
+            fault("" + sign, 0);
+            fault("s" + sign, 1);
+            fault("s1" + sign, 2);
+            fault("c1:" + sign, 3);
+            fault("t9;" + sign, 3);
+        }
+    }
+
     private static void fullTexts() {
         String orders = "d0;".repeat(20);
         fault(orders, 60);
@@ -94,6 +113,18 @@ public final class TextTest {
         fault("s599;".repeat(12), 60);
         fault("c1:599;".repeat(8) + "s599", TicketWindows.NONE);
         fault("c1:599;".repeat(8) + "c1:5", TicketWindows.NONE);
+        for (char letter : new char[] {'s', 'c', 'd', 't'}) {
+            fault("t10;".repeat(14) + "d1;" + letter, 60);
+        }
+        fault("t10;".repeat(14) + "d1;x", 59);
+        fault("t10;".repeat(14) + "s1;;", 59);
+        fault("t10;".repeat(14) + "s60;", 60);
+        fault("t10;".repeat(14) + "s600", 59);
+        fault("t10;".repeat(14) + "t100", 59);
+        fault("t10;".repeat(14) + "c2:5", TicketWindows.NONE);
+        fault("t10;".repeat(14) + "c2::", 59);
+        fault("t10;".repeat(14) + "c2:", 59);
+        fault("t10;".repeat(14) + "ss:1", 57);
         TicketWindows x = new TicketWindows();
         due("11: twenty orders", Check.order(x, "t1;".repeat(19) + "t1"), 20);
         due("11: ticks", x.count(0), 20);

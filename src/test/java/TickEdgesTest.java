@@ -15,6 +15,9 @@ public final class TickEdgesTest {
         unsoldTicketsAndCopies();
         homeIsNumberModuloThree();
         settingsAtTheirEnds();
+        everyMessageOfTheFirstTickets();
+        everyMessageOfTheLastTickets();
+        homeThatHasPaidRefuses();
         messagesInOrderOfWindows();
         messagesInOrderOfSending();
         laterOneComesEarlier();
@@ -142,6 +145,82 @@ public final class TickEdgesTest {
                 due("the home of " + tickets[i] + " pays", x.windowOf(window, 7),
                         window == homes[i] ? 1 : 0);
                 due("the others ask", x.windowOf(window, 2), window == homes[i] ? 0 : 1);
+            }
+        }
+    }
+
+    /** The third draw wins 5: the tickets 0 to 9 have prizes. */
+    private static void everyMessageOfTheFirstTickets() {
+        for (int ticket = 0; ticket < 10; ticket++) {
+            everyMessageOf(ticket, 0);
+        }
+    }
+
+    /** The first draw wins 49, that is 549. */
+    private static void everyMessageOfTheLastTickets() {
+        for (int ticket : new int[] {599, 589, 579, 569, 559, 549, 548}) {
+            everyMessageOf(ticket, 5);
+        }
+    }
+
+    private static void everyMessageOf(int ticket, int draw) {
+        int home = ticket % 3;
+        int first = home == 0 ? 1 : 0;
+        int second = 3 - home - first;
+        TicketWindows x = new TicketWindows();
+        if (draw == 0) {
+            x.draw(1);
+            x.draw(2);
+        }
+        x.sell(ticket);
+        x.draw(draw);
+        int prize = x.ticketOf(ticket, 2);
+        due("a prize of 10 coins", prize, 5 - x.ticketOf(ticket, 1));
+        x.set(0, 1);
+        x.set(2, 1);
+        x.come(second, ticket);
+        x.pass(4);
+        due(ticket + " is lent", x.ticketOf(ticket, 6), 1);
+        due("why at its home", x.why(home, ticket), 5);
+        due("why at another", x.why(first, ticket), 0);
+        x.come(home, ticket);
+        x.pass(1);
+        due("its home does not pay what it lent", x.windowOf(home, 9), 5);
+        x.pass(2);
+        due(ticket + " is given back", x.ticketOf(ticket, 6), 0);
+        due("given up", x.windowOf(second, 9), 6);
+        x.set(2, 12);
+        x.come(first, ticket);
+        x.come(second, ticket);
+        due("both ask", x.pass(6), 0);
+        due(ticket + " is paid by a yes", x.pass(1), prize);
+        due("at " + first, x.windowOf(first, 7), 1);
+        due("a no at " + second, x.windowOf(second, 9), 5);
+        x.pass(3);
+        due("all have the mark of " + ticket, x.ticketOf(ticket, 5), 7);
+        due("no dispute", x.count(7), 0);
+        x.come(home, ticket);
+        x.pass(1);
+        due("its home has it too", x.windowOf(home, 9), 4);
+        due("paid once", x.paid(true), prize);
+    }
+
+    /** Each home pays, and refuses the question that came before its mark came to the others. */
+    private static void homeThatHasPaidRefuses() {
+        for (int ticket : new int[] {599, 549, 548, 547, 546, 545, 544, 543, 542, 541, 540}) {
+            TicketWindows x = new TicketWindows();
+            x.sell(ticket);
+            x.draw(5);
+            x.set(0, 1);
+            int home = ticket % 3;
+            for (int window = 0; window < 3; window++) {
+                x.come(window, ticket);
+            }
+            due("its home pays", x.pass(1), x.ticketOf(ticket, 2));
+            due("nobody else", x.pass(9), 0);
+            due(ticket + " was not lent", x.ticketOf(ticket, 6), 0);
+            for (int window = 0; window < 3; window++) {
+                due("the others are refused", x.windowOf(window, 9), window == home ? 0 : 5);
             }
         }
     }
